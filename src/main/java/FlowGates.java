@@ -26,7 +26,7 @@ public final class FlowGates {
     private final Tables tables = new Tables();
     private World world = new World(tables);
     private World spare = new World(tables);
-    private final Teller teller = new Teller(tape, spare);
+    private final Teller teller = new Teller(tape);
 
     public FlowGates() {
     }
@@ -54,8 +54,16 @@ public final class FlowGates {
     }
 
     public int tell() {
+        int told = 0;
         spare.copyFrom(world);
-        int told = teller.read(spare);
+        teller.begin();
+        // a statement has a byte at least, so there are no more statements than bytes
+        for (int i = 0; i < MOST_BYTES && teller.hasMore(); i++) {
+            if (teller.reads(spare)) {
+                spare.perform(teller.verb, teller.numbers);
+                told++;
+            }
+        }
         tape.length = 0;
         if (teller.found != 0) {
             return NONE;
@@ -797,23 +805,72 @@ public final class FlowGates {
             return NONE;
         }
 
-        void sendAt(int gate, int id) {
-            for (int g = 0; g < GATEWAYS; g++) {
-                if (gate == NONE || gate == g) {
-                    send(g, id);
-                }
+        /** Does a statement that the teller has looked through. */
+        void perform(Verb verb, int[] numbers) {
+            switch (verb) {
+                case SIZE:
+                    resize(numbers[0]);
+                    break;
+                case BACK:
+                    addBackend(numbers[0], numbers[1]);
+                    break;
+                case WEIGH:
+                    weights[numbers[0]] = numbers[1];
+                    break;
+                case SEE:
+                    show(numbers[0], numbers[1], numbers[2]);
+                    break;
+                case TICK:
+                    passTicks(numbers[0]);
+                    break;
+                case ROOM:
+                    changeRoom(numbers[0]);
+                    break;
+                case AGE:
+                    changeAge(numbers[0]);
+                    break;
+                default:
+                    for (int g = 0; g < GATEWAYS; g++) {
+                        if (numbers[0] == NONE || numbers[0] == g) {
+                            send(g, numbers[1]);
+                        }
+                    }
+                    break;
             }
         }
     }
 
-    /** Reads a text token by token and does its statements on a world, till the first fault. */
+    /** What a statement begins with, and the sorts of what stands behind it. */
+    private enum Verb {
+        SIZE("size", "S"),
+        BACK("back", "KW"),
+        WEIGH("weigh", "BW"),
+        SEE("see", "GBH"),
+        TICK("tick", "T"),
+        ROOM("room", "R"),
+        AGE("age", "A"),
+        PACK("pack", "GF");
+
+        private final String word;
+        private final String sorts;
+
+        Verb(String word, String sorts) {
+            this.word = word;
+            this.sorts = sorts;
+        }
+    }
+
+    /** Reads a text from left to right, so that the first fault met is the one to tell. */
     private static final class Teller {
-        private static final int END = 0;
-        private static final int WORD = 1;
-        private static final int NUMBER = 2;
-        private static final int CLOSE = 3;
-        private static final int OTHER = 4;
+        private static final Verb[] VERBS = Verb.values();
         private static final int MOST_DIGITS = 4;
+
+        private static final int END = 0;
+        private static final int BLANK = 1;
+        private static final int WORD = 2;
+        private static final int NUMBER = 3;
+        private static final int CLOSE = 4;
+        private static final int OTHER = 5;
 
         private static final int MISPLACED = 1;
         private static final int IMPOSSIBLE = 2;
@@ -821,127 +878,75 @@ public final class FlowGates {
 
         /** The fault of the latest text, 0 without. */
         int found = 0;
+        Verb verb = Verb.SIZE;
+        final int[] numbers = new int[3];
         private final Tape tape;
-        private World world;
         private int kind = END;
         private int place = 0;
         private int till = 0;
-        private int value = 0;
-        private int numberPlace = 0;
 
-        Teller(Tape tape, World world) {
+        Teller(Tape tape) {
             this.tape = tape;
-            this.world = world;
         }
 
-        /** Does the tape's statements on a world: how many, if no fault was found. */
-        int read(World onto) {
-            world = onto;
+        void begin() {
             found = 0;
             till = 0;
-            int told = 0;
             advance();
-            for (int i = 0; i < MOST_BYTES && kind != END && found == 0; i++) {
-                readStatement();
-                told++;
-            }
-            return told;
         }
 
-        private void readStatement() {
+        boolean hasMore() {
+            return found == 0 && kind != END;
+        }
+
+        /** Whether the next statement can be done in a world as it is now. */
+        boolean reads(World world) {
             int start = place;
-            if (takes("size")) {
-                readSize();
-            } else if (takes("back")) {
-                readBack(start);
-            } else if (takes("weigh")) {
-                readWeigh();
-            } else if (takes("see")) {
-                readSee();
-            } else if (takes("tick")) {
-                readTick();
-            } else if (takes("room")) {
-                readRoom();
-            } else if (takes("age")) {
-                readAge();
-            } else if (takes("pack")) {
-                readPack();
-            } else {
-                fail(MISPLACED, place);
-            }
-        }
-
-        private void readSize() {
-            int n = number();
-            require(isSize(n));
-            if (closes()) {
-                world.resize(n);
-            }
-        }
-
-        private void readBack(int start) {
-            if (world.backends >= MOST_BACKENDS) {
+            if (!takesVerb()) {
+                fail(MISPLACED, start);
+            } else if (verb == Verb.BACK && world.backends >= MOST_BACKENDS) {
                 fail(TOO_MANY, start);
             }
-            int key = number();
-            require(!world.hasKey(key));
-            int weight = numberWithin(1, MOST_WEIGHT);
-            if (closes()) {
-                world.addBackend(key, weight);
+            for (int i = 0; i < verb.sorts.length() && i < numbers.length && found == 0; i++) {
+                numbers[i] = readNext(world, verb.sorts.charAt(i));
             }
-        }
-
-        private void readWeigh() {
-            int backend = numberWithin(0, world.backends - 1);
-            int weight = numberWithin(1, MOST_WEIGHT);
-            if (closes()) {
-                world.weights[backend] = weight;
+            if (kind != CLOSE) {
+                fail(MISPLACED, place);
             }
+            advance();
+            return found == 0;
         }
 
-        private void readSee() {
-            int gate = gates();
-            int backend = numberWithin(0, world.backends - 1);
-            int state = how();
-            if (closes()) {
-                world.show(gate, backend, state);
+        private boolean takesVerb() {
+            for (int i = 0; i < VERBS.length; i++) {
+                if (takes(VERBS[i].word)) {
+                    verb = VERBS[i];
+                    return true;
+                }
             }
+            return false;
         }
 
-        private void readTick() {
-            int n = numberWithin(1, MOST_TICKS);
-            if (closes()) {
-                world.passTicks(n);
+        private int readNext(World world, char sort) {
+            if (sort == 'H') {
+                return readHow();
             }
-        }
-
-        private void readRoom() {
-            int most = numberWithin(1, MOST_ROOM);
-            if (closes()) {
-                world.changeRoom(most);
+            if (sort == 'G' && takes("all")) {
+                return NONE;
             }
-        }
-
-        private void readAge() {
-            int most = numberWithin(0, MOST_AGE);
-            if (closes()) {
-                world.changeAge(most);
+            if (kind != NUMBER) {
+                fail(MISPLACED, place);
+                return 0;
             }
-        }
-
-        private void readPack() {
-            int gate = gates();
-            int id = number();
-            if (closes()) {
-                world.sendAt(gate, id);
+            int number = numberHere();
+            if (!canBe(world, sort, number)) {
+                fail(IMPOSSIBLE, place);
             }
+            advance();
+            return number;
         }
 
-        private int gates() {
-            return takes("all") ? NONE : numberWithin(0, GATEWAYS - 1);
-        }
-
-        private int how() {
+        private int readHow() {
             if (takes("up")) {
                 return UP;
             }
@@ -954,38 +959,37 @@ public final class FlowGates {
             return DRAINING;
         }
 
-        private int number() {
-            if (kind != NUMBER) {
-                fail(MISPLACED, place);
-                return 0;
+        private int numberHere() {
+            int number = 0;
+            for (int at = place; at < till && at < tape.length; at++) {
+                number = number * 10 + tape.bytes[at] - '0';
             }
-            int number = value;
-            numberPlace = place;
-            advance();
             return number;
         }
 
-        private int numberWithin(int least, int most) {
-            int number = number();
-            require(isWithin(number, least, most));
-            return number;
-        }
-
-        /** Whether the number just read can be. */
-        private void require(boolean can) {
-            if (!can) {
-                fail(IMPOSSIBLE, numberPlace);
+        private static boolean canBe(World world, char sort, int number) {
+            if (sort == 'S') {
+                return isSize(number);
             }
-        }
-
-        /** Whether the statement ends here without a fault, so that it may be done. */
-        private boolean closes() {
-            if (kind != CLOSE) {
-                fail(MISPLACED, place);
-            } else {
-                advance();
+            if (sort == 'K') {
+                return !world.hasKey(number);
             }
-            return found == 0;
+            if (sort == 'W') {
+                return isWithin(number, 1, MOST_WEIGHT);
+            }
+            if (sort == 'B') {
+                return world.isBackend(number);
+            }
+            if (sort == 'G') {
+                return isGate(number);
+            }
+            if (sort == 'T') {
+                return isWithin(number, 1, MOST_TICKS);
+            }
+            if (sort == 'R') {
+                return isWithin(number, 1, MOST_ROOM);
+            }
+            return sort == 'A' ? isWithin(number, 0, MOST_AGE) : isFlow(number);
         }
 
         private boolean takes(String word) {
@@ -1001,7 +1005,6 @@ public final class FlowGates {
             return true;
         }
 
-        /** The text is read from left to right, so the first fault that is met is the one to tell. */
         private void fail(int sort, int where) {
             if (found == 0) {
                 found = sort + 8 * where;
@@ -1010,48 +1013,36 @@ public final class FlowGates {
 
         private void advance() {
             place = till;
-            while (place < tape.length && isBlank(tape.bytes[place])) {
+            while (place < tape.length && kindAt(place) == BLANK) {
                 place++;
             }
-            till = place + 1;
-            if (place >= tape.length) {
-                kind = END;
-                till = place;
-            } else if (isLetter(tape.bytes[place])) {
-                readWord();
-            } else if (isDigit(tape.bytes[place])) {
-                readNumber();
-            } else {
-                kind = tape.bytes[place] == ';' ? CLOSE : OTHER;
+            kind = kindAt(place);
+            till = kind == END ? place : place + 1;
+            if (kind == WORD || kind == NUMBER) {
+                while (till < tape.length && kindAt(till) == kind) {
+                    till++;
+                }
+            }
+            if (kind == NUMBER && till - place > MOST_DIGITS) {
+                kind = OTHER;
             }
         }
 
-        private void readWord() {
-            kind = WORD;
-            while (till < tape.length && isLetter(tape.bytes[till])) {
-                till++;
+        private int kindAt(int at) {
+            if (at < 0 || at >= tape.length) {
+                return END;
             }
-        }
-
-        private void readNumber() {
-            value = tape.bytes[place] - '0';
-            while (till < tape.length && isDigit(tape.bytes[till])) {
-                value = value * 10 + tape.bytes[till] - '0';
-                till++;
+            int sign = tape.bytes[at];
+            if (sign >= 'a' && sign <= 'z') {
+                return WORD;
             }
-            kind = till - place > MOST_DIGITS ? OTHER : NUMBER;
-        }
-
-        private static boolean isBlank(int sign) {
-            return sign == ' ' || sign == '\n';
-        }
-
-        private static boolean isLetter(int sign) {
-            return sign >= 'a' && sign <= 'z';
-        }
-
-        private static boolean isDigit(int sign) {
-            return sign >= '0' && sign <= '9';
+            if (sign >= '0' && sign <= '9') {
+                return NUMBER;
+            }
+            if (sign == ' ' || sign == '\n') {
+                return BLANK;
+            }
+            return sign == ';' ? CLOSE : OTHER;
         }
     }
 }
