@@ -884,6 +884,20 @@ public final class PromiseEdgesTest {
         due("nobody's both", x.alike(0, 3), 7);
     }
 
+    private static void promise23OfThisSizeAlone() {
+        says("Promise 23: How many SLOTS (those of a greater SIZE before do not count)");
+        FlowGates x = twins();
+        x.size(97);
+        x.see(1, 0, DOWN);
+        due("alike at 97", x.alike(0, 1), x.share(0, 1));
+        x.size(7);
+        due("alike at 7", x.alike(0, 1), 3);
+        due("alike at 7", x.alike(1, 1), 7);
+        due("were at 7", x.were(0, 0, DOWN, false), 4);
+        x.keep(0);
+        due("changed at 7", x.changed(0, 0), 0);
+    }
+
     private static void promise23NoneNoneSuch() {
         says("Promise 23: NONE: there are none such");
         FlowGates x = twins();
@@ -1045,6 +1059,34 @@ public final class PromiseEdgesTest {
         due("tick", x.remembers(0, 0, 1), 0);
         due("backend", x.remembers(3, 9999, 0), 1);
         due("tick", x.remembers(3, 9999, 1), 9);
+    }
+
+    private static void promise27StaysWithItsFlow() {
+        says("Promise 27: Of what a GATEWAY REMEMBERS of a FLOW (as others come and are FORGOTTEN)");
+        FlowGates x = twins();
+        x.set(0, 3);
+        x.pack(0, 17);
+        x.tick(1);
+        x.pack(0, 2);
+        x.tick(1);
+        x.pack(0, 0);
+        int[][] known = {{0, 0, 2}, {2, 1, 1}, {17, 0, 0}};
+        dueKnown(x, known);
+        x.pack(0, 9999);
+        dueKnown(x, new int[][] {{0, 0, 2}, {2, 1, 1}, {9999, 1, 2}});
+        x.tick(1);
+        x.pack(0, 1);
+        dueKnown(x, new int[][] {{0, 0, 2}, {1, 0, 3}, {9999, 1, 2}});
+        x.pack(0, 6);
+        dueKnown(x, new int[][] {{1, 0, 3}, {6, 1, 3}, {9999, 1, 2}});
+    }
+
+    private static void dueKnown(FlowGates x, int[][] flowBackendTick) {
+        for (int[] known : flowBackendTick) {
+            due("backend of " + known[0], x.remembers(0, known[0], 0), known[1]);
+            due("tick of " + known[0], x.remembers(0, known[0], 1), known[2]);
+        }
+        due("flows", x.flows(0, NONE), flowBackendTick.length);
     }
 
     private static void promise27NoneNothing() {

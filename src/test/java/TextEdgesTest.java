@@ -644,6 +644,32 @@ public final class TextEdgesTest {
         }
     }
 
+    private static void promise4ATextLeavesWhatItDoesNotTell() {
+        says("Promise 4: The TAPE is told (what no STATEMENT tells stays as calls have told it)");
+        String[] texts = {"", "weigh 0 3;", "see 1 1 drain;", "room 9;", "age 31;", "weigh 0 3;weigh 0 3;"};
+        for (String text : texts) {
+            FlowGates x = Edges.furnished();
+            x.set(0, 9);
+            x.set(1, 31);
+            String before = Edges.seen(x);
+            told(x, text, text.length() - text.replace(";", "").length());
+            Edges.same("what is seen behind '" + text + "'", Edges.seen(x), before);
+        }
+        FlowGates x = Edges.twins(1, 1);
+        x.size(13);
+        x.set(0, 5);
+        x.set(1, 6);
+        told(x, "tick 1;", 1);
+        due("size", x.count(0), 13);
+        due("room", x.count(3), 5);
+        due("age", x.count(4), 6);
+        told(x, "size 11;room 4;age 3;", 3);
+        told(x, "tick 1;", 1);
+        due("size", x.count(0), 11);
+        due("room", x.count(3), 4);
+        due("age", x.count(4), 3);
+    }
+
     private static void promise4AFaultIsNoHindrance() {
         says("Promise 4: NONE: a FAULT (all else stays: the next TEXT goes on from there)");
         FlowGates x = Edges.twins(1, 1);
